@@ -19,7 +19,23 @@ final class Cities {
         return x;
     }
 
-    void fill(BreadGames x) {
+    /** One in which LOAVES and SEATS both tell whether there is a riot. */
+    static BreadGames uneasy(int seed) {
+        Cities by = new Cities(seed);
+        BreadGames x = new BreadGames();
+        int people = 4 + by.pick(7);
+        for (int c = 0; c < people; c++) {
+            x.citizen(by.pick(7));
+            x.change(c, 1, by.pick(7));
+            x.change(c, 2, by.pick(4));
+        }
+        x.rule(2, 1 + by.pick(3));
+        x.rule(4, by.pick(2));
+        x.seed(seed * 77777);
+        return x;
+    }
+
+    private void fill(BreadGames x) {
         int people = pick(11);
         for (int c = 0; c < people; c++) {
             x.citizen(pick(7));

@@ -107,6 +107,8 @@ public final class GatesTest {
         BreadGames all = Checks.city("fan colour 0 coin 12; widow coin 9987 seat");
         Checks.due("11: all coins", all.buy(0, 1, 12), 0);
         Checks.due("11: up to 9999", all.of(1, 3), 9999);
+        BreadGames one = Checks.city("seller; widow seat");
+        Checks.due("11: for one coin", one.buy(0, 1, 1), 9);
     }
 
     private static void buyBeyond() {

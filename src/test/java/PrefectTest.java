@@ -13,6 +13,9 @@ public final class PrefectTest {
         for (int seed = 1; seed <= 40; seed++) {
             tried(Cities.some(seed), 1 + seed * 7 % 60);
         }
+        for (int seed = 1; seed <= 110; seed++) {
+            tried(Cities.uneasy(seed), 2 + seed % 12);
+        }
         Checks.end("PrefectTest");
     }
 
@@ -41,6 +44,9 @@ public final class PrefectTest {
         Checks.due("20: none", x.cheapest(1), Checks.NONE);
         Checks.due("20: nobody", new BreadGames().cheapest(60), 0);
         Checks.due("20: no rule has changed", x.now(6), 25);
+        BreadGames ten = Checks.city("boy hunger 9; boy hunger 9; boy hunger 9; boy hunger 9; boy hunger 9",
+                "boy hunger 9; boy hunger 9; boy hunger 9; boy hunger 9; boy hunger 9; bound 1");
+        Checks.due("20: ten loaves", ten.cheapest(1), 1000);
     }
 
     private static void leader() {
