@@ -4,12 +4,15 @@ public final class CitizensTest {
         newObject();
         citizen();
         ofWorths();
+        ofWorthsOfTheHungriest();
         ofWrong();
         change();
+        changeToTheMost();
         changeWrong();
         rule();
         ruleWrong();
         now();
+        nowOfTen();
         Checks.end("CitizensTest");
     }
 
@@ -91,6 +94,19 @@ public final class CitizensTest {
         }
     }
 
+    private static void ofWorthsOfTheHungriest() {
+        int[] fresh = {18, 18, 18, 18, 22, 3, 4};
+        int[] old = {9, 9, 9, 9, 13, 3, 4};
+        for (int kind = 0; kind < 7; kind++) {
+            BreadGames x = new BreadGames();
+            x.citizen(kind);
+            x.change(0, 1, 9);
+            Checks.due("3: hungriest, kind " + kind, x.of(0, 6), fresh[kind]);
+            x.rule(4, 1);
+            Checks.due("3: hungriest, stale, kind " + kind, x.of(0, 6), old[kind]);
+        }
+    }
+
     private static void ofWrong() {
         BreadGames x = Checks.city("citizen; fan");
         Checks.due("3: citizen 2", x.of(2, 0), Checks.BEYOND);
@@ -119,6 +135,20 @@ public final class CitizensTest {
         for (int what : new int[] {0, 1, 2, 3, 5}) {
             Checks.due("4: to 0", x.change(1, what, 0), now[what]);
             Checks.due("4: is 0", x.change(1, what, 0), 0);
+        }
+    }
+
+    private static void changeToTheMost() {
+        BreadGames x = Checks.city("citizen");
+        int[] what = {0, 1, 2, 3, 5};
+        int[] most = {6, 9, 3, 9999, 2};
+        int[] first = {0, 3, 0, 10, 0};
+        for (int i = 0; i < what.length; i++) {
+            Checks.due("4: to the most " + what[i], x.change(0, what[i], most[i]), first[i]);
+            Checks.due("4: is the most " + what[i], x.of(0, what[i]), most[i]);
+            Checks.due("4: one more " + what[i], x.change(0, what[i], most[i] + 1), Checks.BEYOND);
+            Checks.due("4: one less than 0 " + what[i], x.change(0, what[i], -1), Checks.BEYOND);
+            Checks.due("4: is the most yet " + what[i], x.change(0, what[i], 0), most[i]);
         }
     }
 
@@ -195,5 +225,28 @@ public final class CitizensTest {
         for (int far : Checks.FAR) {
             Checks.due("6: what " + far, y.now(far), Checks.BEYOND);
         }
+    }
+
+    private static void nowOfTen() {
+        BreadGames x = new BreadGames();
+        for (int c = 0; c < 10; c++) {
+            x.citizen(6);
+            x.change(c, 1, 7);
+            x.change(c, 5, 1);
+        }
+        Checks.due("6: all have a loaf", x.now(3), 1023);
+        Checks.due("6: nobody has a seat", x.now(4), 0);
+        Checks.due("6: all have 7", x.now(5), 1023);
+        x.change(9, 5, 2);
+        x.change(9, 1, 6);
+        Checks.due("6: the last one's loaf", x.now(3), 511);
+        Checks.due("6: the last one's seat", x.now(4), 512);
+        Checks.due("6: 6 is not 7", x.now(5), 511);
+        x.rule(0, 10);
+        x.rule(1, 10);
+        Checks.due("6: the dearest week", x.now(6), 50);
+        x.rule(0, 0);
+        x.rule(1, 0);
+        Checks.due("6: the cheapest week", x.now(6), 0);
     }
 }

@@ -2,6 +2,7 @@
 public final class GatesTest {
     public static void main(String[] args) {
         wants();
+        wantsOneMore();
         swap();
         swapWrong();
         gatesByLoaf();
@@ -29,6 +30,29 @@ public final class GatesTest {
         for (int far : Checks.FAR) {
             Checks.due("7: citizen " + far, x.wants(far), Checks.BEYOND);
         }
+    }
+
+    /** "More" is one more already, and is not as much. */
+    private static void wantsOneMore() {
+        String[] cities = {"fan hunger 0 colour 1 loaf", "citizen hunger 1 colour 1 loaf; stale",
+            "citizen hunger 2 colour 1 loaf; stale", "citizen hunger 3 colour 1 seat; stale",
+            "citizen hunger 2 colour 1 seat; stale", "widow hunger 0 loaf", "widow hunger 0 seat",
+            "widow hunger 1 seat; stale", "claque hunger 4 colour 1 loaf; stale",
+            "claque hunger 5 colour 1 loaf; stale", "claque hunger 6 colour 1 seat; stale",
+            "claque hunger 5 colour 1 seat; stale"};
+        int[] due = {1, 1, 0, 1, 0, 0, 0, 1, 1, 0, 1, 0};
+        for (int i = 0; i < cities.length; i++) {
+            Checks.due("7: " + cities[i], Checks.city(cities[i]).wants(0), due[i]);
+        }
+        BreadGames x = Checks.city("fan hunger 0 colour 1 loaf; widow hunger 1 seat; stale");
+        Checks.due("10: one more on either side", x.changes(), 1);
+        Checks.due("8: one more on either side", x.swap(0, 1), 1);
+        BreadGames y = Checks.city("fan hunger 0 colour 1 loaf; widow hunger 0 seat");
+        Checks.due("8: as much to the other", y.swap(0, 1), Checks.STATE);
+        Checks.due("9: as much to the other", y.gates(), 0);
+        BreadGames z = Checks.city("widow hunger 0 loaf; widow hunger 1 seat");
+        Checks.due("8: as much to the one", z.swap(0, 1), Checks.STATE);
+        Checks.due("9: as much to the one", z.gates(), 0);
     }
 
     private static void swap() {
@@ -91,6 +115,12 @@ public final class GatesTest {
         Checks.holds("10: nothing has changed", before.equals(Checks.portrait(x)));
         Checks.due("10: as many", x.gates(), 2);
         Checks.due("10: none now", x.changes(), 0);
+        x.change(0, 5, 1);
+        Checks.due("10: a fan wants a seat, but nobody gives one", x.changes(), 0);
+        x.change(1, 5, 2);
+        Checks.due("10: as it is by now", x.changes(), 1);
+        x.change(1, 5, 0);
+        Checks.due("10: who has none changes nothing", x.changes(), 0);
     }
 
     private static void buy() {
@@ -125,6 +155,9 @@ public final class GatesTest {
             Checks.due("11: v " + far, x.buy(0, 1, far), Checks.BEYOND);
         }
         Checks.due("11: 99 is no beyond", x.buy(0, 1, 99), Checks.STATE);
+        Checks.due("11: beyond before state: 0", x.buy(1, 0, 0), Checks.BEYOND);
+        Checks.due("11: beyond before state: 100", x.buy(1, 0, 100), Checks.BEYOND);
+        Checks.due("11: beyond before state: the same", x.buy(1, 1, 1), Checks.BEYOND);
         Checks.holds("11: nothing has changed", before.equals(Checks.portrait(x)));
     }
 
@@ -159,6 +192,12 @@ public final class GatesTest {
         BreadGames loss = Checks.city("fan hunger 0 loaf; fan hunger 1 loaf; hungry hunger 9");
         Checks.due("12: loss", loss.welfare(), 2);
         Checks.due("13: the loaves must lie somewhere", loss.most(), 2);
+        BreadGames widows = Checks.city("widow hunger 2 loaf; widow hunger 4 seat; widow hunger 1 seat");
+        Checks.due("13: one loaf to the hungriest", widows.most(), 8);
+        widows.change(2, 5, 1);
+        Checks.due("13: two loaves to the hungriest", widows.most(), 8 + 4);
+        BreadGames idle = Checks.city("hungry hunger 9; widow hunger 1 seat; citizen hunger 0 loaf; boy");
+        Checks.due("13: nothing goes to who has none", idle.most(), 2 + 6);
         BreadGames seats = Checks.city("widow seat; hungry seat; citizen seat");
         Checks.due("13: no loaf at all", seats.most(), 6);
         Checks.due("12: nobody", new BreadGames().welfare(), 0);
@@ -178,6 +217,16 @@ public final class GatesTest {
         Checks.due("14: no loaf", x.price(), 0);
         BreadGames fans = Checks.city("fan hunger 0 loaf; fan hunger 0 seat");
         Checks.due("14: dearest", fans.price(), 13);
+        BreadGames one = Checks.city("citizen hunger 2 loaf; widow hunger 0 seat");
+        Checks.due("14: as much is not more", one.price(), 1);
+        one.change(1, 1, 1);
+        Checks.due("14: more at 0", one.price(), 0);
+        one.change(1, 5, 0);
+        Checks.due("14: a loaf, but no seat", one.price(), Checks.NONE);
+        one.change(0, 5, 0);
+        Checks.due("14: nobody has a token", one.price(), Checks.NONE);
+        BreadGames idle = Checks.city("hungry hunger 9; citizen hunger 2 loaf; fan hunger 0 seat");
+        Checks.due("14: who has none does not count", idle.price(), 3);
         Checks.due("14: nobody", new BreadGames().price(), Checks.NONE);
     }
 }

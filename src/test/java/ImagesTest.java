@@ -3,6 +3,8 @@ public final class ImagesTest {
     public static void main(String[] args) {
         imageAndUndo();
         notKept();
+        imageOfNobody();
+        findingsStay();
         latest();
         tear();
         count();
@@ -53,6 +55,59 @@ public final class ImagesTest {
         Checks.due("43: sheets are not kept", x.load(0), 2);
         Checks.due("43: nor are their numbers", x.of(0, 1), 6);
         Checks.due("43: one that came stays", x.write(1, 0, 1), 1);
+    }
+
+    private static void imageOfNobody() {
+        BreadGames x = new BreadGames();
+        String before = Checks.portrait(x);
+        Checks.due("43: nobody is kept", x.image(), 1);
+        Checks.read(x, "fan hunger 9 colour 2 coin 5 loaf; boy; loaves 9; stale");
+        x.hold(9, 0);
+        x.weeks(60);
+        x.change(0, 5, 2);
+        Checks.due("44: week 0", x.undo(), 0);
+        Checks.holds("44: nobody again", before.equals(Checks.portrait(x)));
+        Checks.due("44: nobody to tell of", x.of(0, 0), Checks.BEYOND);
+        Checks.due("44: nobody to hold", x.hold(0, 0), Checks.BEYOND);
+        Checks.due("44: nothing is held", x.as(9, 0), Checks.MISSING);
+        Checks.due("2: a new one has the first number", x.citizen(1), 0);
+        int[] first = {1, 3, 0, 10, 0, 0};
+        for (int what = 0; what < first.length; what++) {
+            Checks.due("2: all as at first, " + what, x.of(0, what), first[what]);
+        }
+        BreadGames ten = Checks.city("boy; boy; boy; boy; boy; boy; boy; boy; boy");
+        ten.image();
+        ten.citizen(0);
+        Checks.due("2: full", ten.citizen(0), Checks.FULL);
+        ten.undo();
+        Checks.due("2: room again", ten.citizen(0), 9);
+    }
+
+    /** What was found stays found, whatever is taken back, read or torn. */
+    private static void findingsStay() {
+        BreadGames x = new BreadGames();
+        x.image();
+        x.wants(0);
+        x.price();
+        x.famine(1);
+        x.tally(0);
+        Checks.due("44: back", x.undo(), 0);
+        int[] due = {1, 0, 0, 1, 1, 1, 0};
+        for (int which = 0; which < 7; which++) {
+            Checks.due("47: of " + which, x.status(which), due[which]);
+        }
+        Checks.due("47: all", x.status(-1), 4);
+        Checks.due("45: torn", x.tear(), 1);
+        Checks.due("44: nothing is kept", x.undo(), Checks.NONE);
+        Checks.due("47: that counts, too", x.status(3), 2);
+        Checks.due("34: a fault", Checks.read(x, "x"), -1);
+        Checks.due("45: nothing to tear", x.tear(), 0);
+        Checks.due("46: z of LOW", x.seed(-1000001), 1);
+        Checks.due("46: z of LOW", x.count(6), -1000001);
+        Checks.due("31: z of LOW", x.seed(1), -1000001);
+        Checks.due("47: none of these counts", x.status(-1), 5);
+        Checks.due("43: an image is kept anew", x.image(), 1);
+        Checks.due("44: and found", x.undo(), 0);
     }
 
     private static void latest() {

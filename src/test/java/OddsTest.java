@@ -3,8 +3,11 @@ public final class OddsTest {
     public static void main(String[] args) {
         ways();
         eats();
+        eatsOfTokensHad();
         busy();
+        busyFive();
         famine();
+        famineIsNoRiot();
         seed();
         Checks.end("OddsTest");
     }
@@ -25,6 +28,18 @@ public final class OddsTest {
         Checks.due("27: ten", x.ways(), 252);
         Checks.read(x, "loaves 10; seats 10");
         Checks.due("27: all of ten", x.ways(), 1024);
+        x.rule(0, 0);
+        Checks.due("27: seats alone, enough", x.ways(), 1);
+        x.rule(1, 9);
+        Checks.due("27: seats alone, for nine", x.ways(), 1);
+        x.rule(0, 1);
+        Checks.due("27: one loaf, nine seats", x.ways(), 10);
+        x.rule(0, 2);
+        Checks.due("27: one token too many", x.ways(), 10 + 45);
+        x.rule(1, 7);
+        Checks.due("27: one token too few", x.ways(), 36);
+        x.rule(1, 0);
+        Checks.due("27: two loaves alone", x.ways(), 1);
     }
 
     private static void eats() {
@@ -42,6 +57,26 @@ public final class OddsTest {
         Checks.due("28: the first finding in longs counts", x.status(0), 2 + Checks.FAR.length);
     }
 
+    /** Who is not among the first has nothing, whatever it has now. */
+    private static void eatsOfTokensHad() {
+        BreadGames x = Checks.city("boy seat; boy loaf; boy loaf; boy seat; loaves 1; seats 1");
+        String before = Checks.portrait(x);
+        int[] due = {1, 1, 0, 0};
+        for (int c = 0; c < 4; c++) {
+            Checks.due("28: of citizen " + c, x.eats(c), due[c]);
+        }
+        Checks.read(x, "loaves 0; seats 0");
+        for (int c = 0; c < 4; c++) {
+            Checks.due("28: no tokens, citizen " + c, x.eats(c), 0);
+        }
+        Checks.read(x, "loaves 10");
+        for (int c = 0; c < 4; c++) {
+            Checks.due("28: loaves alone, citizen " + c, x.eats(c), 1);
+        }
+        Checks.read(x, "loaves 1; seats 1");
+        Checks.holds("28: nothing has changed", before.equals(Checks.portrait(x)));
+    }
+
     private static void busy() {
         BreadGames x = Checks.city("widow hunger 6; fan hunger 0; boy; loaves 1; seats 1");
         Checks.due("29: none", x.busy(0), 1);
@@ -54,6 +89,22 @@ public final class OddsTest {
         for (int far : Checks.FAR) {
             Checks.due("29: n " + far, x.busy(far), Checks.BEYOND);
         }
+    }
+
+    /** Five fans and five widows: as many changes as fans with a loaf. */
+    private static void busyFive() {
+        BreadGames x = Checks.city("fan hunger 0; fan hunger 0; fan hunger 0; fan hunger 0; fan hunger 0",
+                "widow; widow; widow; widow; widow");
+        long[] due = {1, 25, 100, 100, 25, 1};
+        long all = 0;
+        for (int n = 0; n <= 30; n++) {
+            Checks.due("29: " + n, x.busy(n), n < due.length ? due[n] : 0);
+            all += x.busy(n);
+        }
+        Checks.due("27: all of them", x.ways(), all);
+        Checks.read(x, "loaves 0; seats 0");
+        Checks.due("29: no tokens, no changes", x.busy(0), 1);
+        Checks.due("29: no tokens, no changes", x.busy(1), 0);
     }
 
     private static void famine() {
@@ -91,6 +142,24 @@ public final class OddsTest {
         Checks.due("30: nobody", none.famine(12), Checks.STATE);
         Checks.due("30: beyond before state", none.famine(13), Checks.BEYOND);
         Checks.due("30: no draw then", none.count(6), 1);
+    }
+
+    private static void famineIsNoRiot() {
+        BreadGames x = Checks.city("boy hunger 9; boy hunger 7; boy hunger 6; bound 1");
+        for (int round = 0; round < 20; round++) {
+            int hungry = x.famine(1 + round % 12);
+            Checks.due("30: who has 7 or more", hungry, Integer.bitCount(x.now(5)));
+            Checks.due("30: no riot", x.now(1), 0);
+        }
+        BreadGames one = Checks.city("boy");
+        for (int seed = 0; seed < 50; seed++) {
+            one.seed(seed);
+            int z = Checks.stirred(Checks.stirred(seed));
+            int hunger = (z >>> 8) % 10;
+            Checks.due("30: one alone, seed " + seed, one.famine(1), hunger >= 7 ? 1 : 0);
+            Checks.due("30: its hunger, seed " + seed, one.of(0, 1), hunger);
+            Checks.due("30: two draws, seed " + seed, one.count(6), z);
+        }
     }
 
     private static void seed() {

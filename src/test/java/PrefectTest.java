@@ -3,6 +3,7 @@ public final class PrefectTest {
     public static void main(String[] args) {
         loaves();
         cheapest();
+        cheapestOfSeats();
         leader();
         colourFor();
         kindFor();
@@ -10,6 +11,8 @@ public final class PrefectTest {
         bound();
         law();
         wrong();
+        spans();
+        stateBeforeNone();
         for (int seed = 1; seed <= 40; seed++) {
             tried(Cities.some(seed), 1 + seed * 7 % 60);
         }
@@ -30,6 +33,13 @@ public final class PrefectTest {
         Checks.read(x, "bound 2; seats 4");
         Checks.holds("19: with seats the draws tell", x.loaves(1) >= 2);
         Checks.due("19: nobody", new BreadGames().loaves(60), 0);
+        BreadGames ten = Checks.city("boy hunger 9; boy hunger 9; boy hunger 9; boy hunger 9; boy hunger 9",
+                "boy hunger 9; boy hunger 9; boy hunger 9; boy hunger 9; boy hunger 9; seats 0; bound 1");
+        Checks.due("19: ten", ten.loaves(1), 10);
+        Checks.read(ten, "bound 10");
+        Checks.due("19: one of ten", ten.loaves(1), 1);
+        Checks.read(ten, "bound 9; stale");
+        Checks.due("19: none of 11", ten.loaves(1), Checks.NONE);
         BreadGames y = Checks.city("citizen hunger 7; loaves 5; seats 10; bound 1");
         Checks.due("19: SEATS are as they are", y.loaves(1), leastByTrying(y, 0, 0, 10, 1));
         Checks.due("19: no rule has changed", y.rule(0, 5), 5);
@@ -47,6 +57,29 @@ public final class PrefectTest {
         BreadGames ten = Checks.city("boy hunger 9; boy hunger 9; boy hunger 9; boy hunger 9; boy hunger 9",
                 "boy hunger 9; boy hunger 9; boy hunger 9; boy hunger 9; boy hunger 9; bound 1");
         Checks.due("20: ten loaves", ten.cheapest(1), 1000);
+    }
+
+    /** One that must eat among boys, who never change: these z were found by trying. */
+    private static void cheapestOfSeats() {
+        Checks.due("20: as many seats as can be", oneMustEat(8, 7, 7).cheapest(1), 110);
+        Checks.due("20: no 11 seats", oneMustEat(10, 9, 99).cheapest(1), 210);
+        Checks.due("20: no 11 seats", oneMustEat(10, 9, 159).cheapest(1), 505);
+        BreadGames same = Checks.city("widow; boy hunger 8; boy; widow; bound 1");
+        Checks.due("20: fewest loaves, though 400 costs as little", same.cheapest(10), 203);
+        same.rule(0, 4);
+        same.rule(1, 0);
+        Checks.due("20: 400 would do, too", same.ahead(10, 0), 0);
+    }
+
+    private static BreadGames oneMustEat(int boys, int hungriest, int seed) {
+        BreadGames x = new BreadGames();
+        for (int c = 0; c < boys; c++) {
+            x.citizen(6);
+        }
+        x.change(hungriest, 1, 6);
+        x.rule(2, 1);
+        x.seed(seed);
+        return x;
     }
 
     private static void leader() {
@@ -100,6 +133,10 @@ public final class PrefectTest {
         BreadGames all = Checks.city("boy hunger 9; boy hunger 9; boy hunger 9; boy hunger 9; boy hunger 9",
                 "boy hunger 9; boy hunger 9; boy hunger 9; boy hunger 9; loaves 0; seats 0");
         Checks.due("25: ten", all.bound(1), 10);
+        all.change(8, 1, 5);
+        Checks.due("25: nine", all.bound(1), 9);
+        all.change(8, 1, 6);
+        Checks.due("25: ten for 7, too", all.bound(1), 10);
         Checks.read(all, "boy hunger 9");
         Checks.due("25: none", all.bound(1), Checks.NONE);
     }
@@ -110,6 +147,11 @@ public final class PrefectTest {
         Checks.due("26: widows change nothing", x.law(1, 1), asItIs);
         Checks.due("26: sellers change nothing", x.law(5, 1), asItIs);
         Checks.due("26: kinds are as they were", 10 * x.of(0, 0) + x.of(1, 0), 12);
+        BreadGames more = Checks.city("seller hunger 0; seller hunger 5 colour 1; loaves 1; seats 1");
+        Checks.due("26: sellers never change", more.ahead(1, 3), 0);
+        Checks.due("26: fans would", more.law(2, 1), -1);
+        Checks.due("26: sellers as sellers", more.law(5, 60), 0);
+        Checks.due("26: nobody", new BreadGames().law(6, 60), 0);
     }
 
     private static void wrong() {
@@ -126,6 +168,66 @@ public final class PrefectTest {
         wrongAt(x, 61, Checks.BEYOND);
         wrongWho(x);
         Checks.holds("24: just so far", x.stale(39) > -1000);
+    }
+
+    /** 1 and 60 weeks can be asked for, up to WEEK 999. */
+    private static void spans() {
+        BreadGames x = Checks.city("widow; fan; boy; bound 10");
+        span(x, 1, true);
+        span(x, 60, true);
+        for (int i = 0; i < 15; i++) {
+            x.weeks(60);
+        }
+        x.weeks(39);
+        span(x, 60, true);
+        x.weeks(1);
+        span(x, 60, false);
+        span(x, 59, true);
+        x.weeks(58);
+        span(x, 1, true);
+        span(x, 2, false);
+        x.weeks(1);
+        span(x, 1, false);
+        span(x, 60, false);
+    }
+
+    private static void span(BreadGames x, int n, boolean goes) {
+        String at = " at " + x.now(0) + ", n " + n;
+        String before = Checks.portrait(x);
+        int[] answers = {x.loaves(n), x.cheapest(n), x.leader(n), x.colourFor(0, n), x.kindFor(0, n), x.stale(n),
+            x.bound(n), x.law(0, n)};
+        for (int i = 0; i < answers.length; i++) {
+            if (goes) {
+                Checks.holds((19 + i) + at, answers[i] > -1000);
+            } else {
+                Checks.due((19 + i) + at, answers[i], Checks.STATE);
+            }
+        }
+        Checks.holds("19 to 26: nothing has changed" + at, before.equals(Checks.portrait(x)));
+    }
+
+    private static void stateBeforeNone() {
+        BreadGames x = Checks.city("loaves 0; seats 0; bound 1; stale");
+        for (int c = 0; c < 10; c++) {
+            x.citizen(6);
+            x.change(c, 1, 9);
+        }
+        Checks.due("19: none", x.loaves(1), Checks.NONE);
+        Checks.due("20: none", x.cheapest(1), Checks.NONE);
+        Checks.due("25: none", x.bound(1), Checks.NONE);
+        for (int i = 0; i < 16; i++) {
+            x.weeks(60);
+        }
+        x.weeks(39);
+        for (int c = 0; c < 10; c++) {
+            x.change(c, 1, 9);
+        }
+        Checks.due("19: state before none", x.loaves(1), Checks.STATE);
+        Checks.due("20: state before none", x.cheapest(1), Checks.STATE);
+        Checks.due("25: state before none", x.bound(1), Checks.STATE);
+        Checks.due("19: beyond before state", x.loaves(0), Checks.BEYOND);
+        Checks.due("20: beyond before state", x.cheapest(61), Checks.BEYOND);
+        Checks.due("25: beyond before state", x.bound(-1), Checks.BEYOND);
     }
 
     private static void wrongAt(BreadGames x, int n, int due) {

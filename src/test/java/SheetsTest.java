@@ -2,15 +2,21 @@
 public final class SheetsTest {
     public static void main(String[] args) {
         hold();
+        holdOfAll();
         as();
         sheet();
         sheetWrong();
         write();
+        writeAtTheSign();
         copy();
         copyWrong();
         load();
+        loadEnds();
         tally();
+        tallyOfEachNumber();
         judge();
+        judgeOfForty();
+        judgeBySign();
         Checks.end("SheetsTest");
     }
 
@@ -32,6 +38,32 @@ public final class SheetsTest {
             Checks.due("35: citizen " + far, x.hold(0, far), Checks.BEYOND);
         }
         Checks.due("35: one holds yet", x.count(7), 1);
+    }
+
+    private static void holdOfAll() {
+        BreadGames x = new BreadGames();
+        Checks.due("35: no citizen 0", x.hold(0, 0), Checks.BEYOND);
+        Checks.due("35: nothing holds nobody", x.hold(9, -1), 1);
+        for (int i = 0; i < 10; i++) {
+            x.citizen(i % 7);
+        }
+        for (int i = 0; i < 10; i++) {
+            Checks.due("35: spot " + i, x.hold(i, 9 - i), 1);
+            Checks.due("46: spots that hold something", x.count(7), i + 1);
+        }
+        Checks.due("35: citizen 10", x.hold(5, 10), Checks.BEYOND);
+        Checks.due("35: citizen -2", x.hold(6, -2), Checks.BEYOND);
+        for (int i = 0; i < 10; i++) {
+            Checks.due("36: spot " + i + " holds what it held", x.as(i, 0), 9 - i);
+        }
+        Checks.due("35: two spots may hold one", x.hold(0, 0), 1);
+        Checks.due("36: the one", x.as(0, 0), x.as(9, 0));
+        for (int i = 0; i < 10; i++) {
+            Checks.due("35: nothing at " + i, x.hold(i, -1), 1);
+            Checks.due("36: nothing at " + i, x.as(i, 0), Checks.MISSING);
+            Checks.due("36: beyond before missing at " + i, x.as(i, 7), Checks.BEYOND);
+        }
+        Checks.due("46: none holds anything", x.count(7), 0);
     }
 
     private static void as() {
@@ -131,6 +163,37 @@ public final class SheetsTest {
         Checks.due("38: missing before beyond", x.write(1, 40, 1), Checks.MISSING);
     }
 
+    /** What doesn't fit is cut to the lowest bits, and they are told with their sign. */
+    private static void writeAtTheSign() {
+        BreadGames x = Checks.city("fan hunger 5");
+        int[][] zeros = {{8, Integer.MIN_VALUE}, {8, 256}, {8, 1 << 30}, {16, Integer.MIN_VALUE}, {16, 65536},
+            {16, 1 << 24}, {32, 0}};
+        for (int[] z : zeros) {
+            x.sheet(0, z[0], 1);
+            x.write(0, 0, z[1]);
+            Checks.due("38: " + z[1] + " is 0 of " + z[0] + " bits", x.judge(0), 0);
+        }
+        int[][] others = {{8, 1}, {8, 255}, {8, 128}, {8, 127}, {8, Integer.MAX_VALUE}, {16, 256}, {16, 32768},
+            {16, 65535}, {16, 32767}, {16, Integer.MAX_VALUE}, {32, 256}, {32, 65536}, {32, 1 << 24},
+            {32, Integer.MIN_VALUE}, {32, Integer.MAX_VALUE}};
+        for (int[] o : others) {
+            x.sheet(0, o[0], 1);
+            x.write(0, 0, o[1]);
+            Checks.due("38: " + o[1] + " isn't 0 of " + o[0] + " bits", x.judge(0), 1);
+            x.change(0, 1, 5);
+            Checks.due("40: nor a hunger", x.load(0), o[1] == 1 ? 1 : 0);
+        }
+        x.sheet(0, 32, 2);
+        x.write(0, 0, 4);
+        Checks.due("38: number 2 of two", x.write(0, 2, 9), Checks.BEYOND);
+        Checks.due("38: number -1", x.write(0, -1, 9), Checks.BEYOND);
+        x.load(0);
+        Checks.due("38: the first is what it was", x.of(0, 1), 4);
+        x.sheet(0, 0, 0);
+        Checks.due("38: no such sheet before missing", x.write(4, 0, 9), Checks.BEYOND);
+        Checks.due("38: missing now", x.write(0, 0, 9), Checks.MISSING);
+    }
+
     private static void copy() {
         BreadGames x = rowed();
         Checks.due("39: to another one", x.copy(0, 1, 1, 2, 3), 3);
@@ -208,6 +271,35 @@ public final class SheetsTest {
         Checks.due("40: missing", x.load(2), Checks.MISSING);
     }
 
+    private static void loadEnds() {
+        BreadGames x = Checks.city("boy; boy");
+        x.sheet(0, 8, 0);
+        Checks.due("40: no numbers", x.load(0), 0);
+        Checks.due("40: so nothing comes", x.count(2), 6);
+        x.sheet(0, 8, 40);
+        Checks.due("40: 40 numbers for two", x.load(0), 2);
+        Checks.due("40: both 0", x.count(2), 0);
+        int[] bad = {10, -1, 127, -128};
+        for (int v : bad) {
+            x.write(0, 0, v);
+            x.write(0, 1, 9);
+            Checks.due("40: ends at the first, " + v, x.load(0), 0);
+            Checks.due("40: both 0 yet, " + v, x.count(2), 0);
+        }
+        x.write(0, 0, 9);
+        x.write(0, 1, 10);
+        Checks.due("40: ends at the last", x.load(0), 1);
+        Checks.due("40: the first one's alone", x.count(2), 9);
+        x.write(0, 1, 0);
+        x.write(0, 2, -1);
+        Checks.due("40: what is for nobody is not asked", x.load(0), 2);
+        BreadGames ten = Checks.city("boy; boy; boy; boy; boy; boy; boy; boy; boy; boy");
+        ten.sheet(3, 32, 10);
+        ten.write(3, 9, 9);
+        Checks.due("40: for ten", ten.load(3), 10);
+        Checks.due("40: the tenth", ten.of(9, 1), 9);
+    }
+
     private static BreadGames emptySheet() {
         BreadGames x = new BreadGames();
         x.sheet(0, 8, 3);
@@ -236,6 +328,28 @@ public final class SheetsTest {
         Checks.due("41: missing", x.tally(1), Checks.MISSING);
         Checks.due("41: two beyond", x.status(0), 2);
         Checks.due("41: one missing", x.status(5), 1);
+    }
+
+    private static void tallyOfEachNumber() {
+        BreadGames x = Checks.city("boy loaf; boy seat; boy seat; loaves 1; seats 1");
+        x.sheet(0, 8, 3);
+        int[] ends = {1, 2, 0};
+        for (int at = 0; at < 3; at++) {
+            for (int v = -1; v <= 3; v++) {
+                for (int i = 0; i < 3; i++) {
+                    x.write(0, i, i == at ? v : ends[i]);
+                }
+                Checks.due("41: number " + at + " is " + v, x.tally(0), v == ends[at] ? 1 : 0);
+            }
+        }
+        Checks.due("41: tokens are what they were", x.now(3), 1);
+        Checks.read(x, "loaves 0; seats 0");
+        x.sheet(0, 8, 3);
+        Checks.due("41: nobody has any", x.tally(0), 1);
+        x.sheet(0, 8, 40);
+        Checks.due("41: 37 too many", x.tally(0), 1);
+        x.write(0, 0, 1);
+        Checks.due("41: no loaf for the first", x.tally(0), 0);
     }
 
     private static void judge() {
@@ -268,5 +382,61 @@ public final class SheetsTest {
         Checks.due("42: missing before state", x.judge(2), Checks.MISSING);
         x.weeks(3);
         Checks.due("42: week 999 and none", x.judge(1), 0);
+    }
+
+    private static void judgeOfForty() {
+        BreadGames x = Checks.city("citizen hunger 6; loaves 0; seats 0; bound 1");
+        x.sheet(0, 16, 40);
+        for (int i = 0; i < 40; i++) {
+            x.write(0, i, 1 + i / 2);
+        }
+        Checks.due("42: forty", x.judge(0), 0);
+        x.write(0, 39, 21);
+        Checks.due("42: the last isn't", x.judge(0), 40);
+        x.write(0, 0, 0);
+        Checks.due("42: the first isn't, either", x.judge(0), 1);
+        for (int i = 0; i < 15; i++) {
+            x.weeks(60);
+        }
+        x.weeks(59);
+        Checks.due("42: week 959", x.judge(0), 1);
+        x.weeks(1);
+        Checks.due("42: week 960, though the first isn't", x.judge(0), Checks.STATE);
+        x.sheet(0, 16, 39);
+        Checks.due("42: 39 from 960 on", x.judge(0), 1);
+        Checks.due("42: week is as it was", x.now(0), 960);
+    }
+
+    /** There are more riots than 8 bits tell; their sign makes other numbers of them. */
+    private static void judgeBySign() {
+        BreadGames x = Checks.city("citizen hunger 6; loaves 0; seats 0; bound 1");
+        for (int i = 0; i < 4; i++) {
+            x.weeks(60);
+        }
+        x.weeks(13);
+        Checks.due("42: riots", x.now(1), 127);
+        int[] bits = {8, 16, 32};
+        int[] at128 = {1, 0, 0};
+        for (int b = 0; b < 3; b++) {
+            x.sheet(0, bits[b], 1);
+            x.write(0, 0, 127);
+            Checks.due("42: 127 of " + bits[b] + " bits", x.judge(0), 0);
+        }
+        x.weeks(1);
+        for (int b = 0; b < 3; b++) {
+            x.sheet(0, bits[b], 1);
+            x.write(0, 0, 128);
+            Checks.due("38: 128 of " + bits[b] + " bits", x.judge(0), at128[b]);
+        }
+        for (int i = 0; i < 4; i++) {
+            x.weeks(60);
+        }
+        x.weeks(17);
+        Checks.due("42: more riots", x.now(1), 256);
+        for (int b = 0; b < 3; b++) {
+            x.sheet(0, bits[b], 1);
+            x.write(0, 0, 256);
+            Checks.due("38: 256 of " + bits[b] + " bits", x.judge(0), at128[b]);
+        }
     }
 }

@@ -3,12 +3,16 @@ public final class TextsTest {
     public static void main(String[] args) {
         feed();
         feedWrong();
+        feedUpTo120();
         wipe();
         textCitizens();
         textRules();
         textBlanks();
+        textOf120();
         faults();
         faultsOfNumbers();
+        faultsOfLongTokens();
+        faultsOfEachEnd();
         tooManyCitizens();
         faultChangesNothing();
         Checks.end("TextsTest");
@@ -48,6 +52,31 @@ public final class TextsTest {
         Checks.due("32: beyond before full", x.feed(0, 5), Checks.BEYOND);
         Checks.due("32: 120 yet", x.count(5), 120);
         Checks.due("34: the first byte that begins none", x.text(), -1 - 117);
+    }
+
+    private static void feedUpTo120() {
+        for (int n = 1; n <= 4; n++) {
+            BreadGames x = new BreadGames();
+            for (int had = n; had <= 120; had += n) {
+                Checks.due("32: " + n + " each", x.feed(-1, n), had);
+            }
+            Checks.due("32: no more of " + n, x.feed(-1, n), Checks.FULL);
+            Checks.due("32: nor of one, " + n, x.feed(-1, 1), Checks.FULL);
+            Checks.due("32: 120 of " + n, x.count(5), 120);
+            Checks.due("32: two full, " + n, x.status(1), 2);
+            Checks.due("33: 120 of " + n, x.wipe(), 120);
+            Checks.due("32: there is room now", x.feed(-1, n), n);
+            Checks.due("34: 255 begins nothing", x.text(), -1);
+        }
+        BreadGames y = new BreadGames();
+        Checks.put(y, blanks(118) + "b");
+        Checks.due("32: too much by one", y.feed('o' << 8 | 'y', 2), Checks.FULL);
+        Checks.due("32: none of them came", y.feed('x', 1), 120);
+        Checks.due("34: so the word is bx", y.text(), -1 - 118);
+    }
+
+    private static String blanks(int n) {
+        return " ".repeat(n);
     }
 
     private static void wipe() {
@@ -115,6 +144,25 @@ public final class TextsTest {
         Checks.due("34: bound", x.rule(2, 7), 7);
     }
 
+    private static void textOf120() {
+        BreadGames x = new BreadGames();
+        Checks.due("34: 20 items", Checks.read(x, "stale;".repeat(19) + "fresh "), 20);
+        Checks.due("34: the last tells", x.rule(4, 0), 0);
+        Checks.due("34: 20 items and no more", Checks.read(x, "stale;".repeat(20)), -1 - 120);
+        Checks.due("34: not stale then", x.rule(4, 0), 0);
+        Checks.due("34: the last three bytes", Checks.read(x, blanks(117) + "boy"), 1);
+        Checks.due("34: a boy", x.of(0, 0), 6);
+        Checks.due("34: the last byte", Checks.read(x, blanks(119) + "x"), -1 - 119);
+        Checks.due("34: blanks alone", Checks.read(x, blanks(120)), -1 - 120);
+        Checks.due("34: a number's end", Checks.read(x, blanks(112) + "leads 03"), 1);
+        Checks.due("34: leads", x.now(2), 3);
+        Checks.due("34: a number of many zeros", Checks.read(x, "bound " + "0".repeat(113) + "9"), 1);
+        Checks.due("34: bound", x.rule(2, 3), 9);
+        Checks.due("34: a number of many digits", Checks.read(x, "bound " + "9".repeat(114)), -1 - 6);
+        Checks.due("34: a word of many letters", Checks.read(x, "boy" + "y".repeat(117)), -1);
+        Checks.due("34: one boy", x.count(1), 1);
+    }
+
     private static void faults() {
         fault("", 0);
         fault("   ", 3);
@@ -177,6 +225,71 @@ public final class TextsTest {
         fault("fan; loaves 4294967297; boy", 12);
     }
 
+    /** Tokens are as long as can be. */
+    private static void faultsOfLongTokens() {
+        fault("fanloaf", 0);
+        fault("fanhunger 3", 0);
+        fault("fan hungercolour 3", 4);
+        fault("fan hunger 3 4", 13);
+        fault("fan hunger 34", 11);
+        fault("fan hunger 4fan", 12);
+        fault("fan hunger 4loafs", 12);
+        fault("stalestale", 0);
+        fault("loaves 10 0", 10);
+        fault("loaves 100", 7);
+        fault("fan coin 99990", 9);
+        fault("fan coin 9999 9", 14);
+        fault("bound 1 0", 8);
+        fault("bound 00", 6);
+        fault("fanX", 3);
+        fault("fanX loaf", 3);
+        fault("fan hunger 3X", 12);
+        fault("fan Loaf", 4);
+        fault("fan\u0000", 3);
+        fault("fan\r", 3);
+        fault("fan\u00a0loaf", 3);
+        for (String word : "citizen widow fan claque hungry seller boy loaves seats bound leads stale fresh".split(" ")) {
+            fault('x' + word.substring(1), 0);
+            fault(word.substring(0, word.length() - 1) + 'x', 0);
+            fault(word.substring(0, word.length() - 1), 0);
+            fault(word + 'x', 0);
+        }
+        for (String word : "hunger colour coin loaf seat".split(" ")) {
+            fault("fan x" + word.substring(1) + " 1", 4);
+            fault("fan " + word.substring(0, word.length() - 1) + "x 1", 4);
+            fault("fan " + word + "x 1", 4);
+        }
+    }
+
+    /** A text may end too early at each token; the NUMBER that each asks for has a least and a most. */
+    private static void faultsOfEachEnd() {
+        String[] asks = {"fan hunger", "fan colour", "fan coin", "loaves", "seats", "bound", "leads"};
+        int[] least = {0, 0, 0, 0, 0, 1, 0};
+        int[] most = {9, 3, 9999, 10, 10, 10, 3};
+        for (int i = 0; i < asks.length; i++) {
+            int end = asks[i].length();
+            fault(asks[i], end);
+            fault(asks[i] + "  ", end + 2);
+            fault(asks[i] + ";", end);
+            fault(asks[i] + " fan", end + 1);
+            fault(asks[i] + " #", end + 1);
+            fault(asks[i] + " " + (most[i] + 1), end + 1);
+            fault(asks[i] + " " + (most[i] + 1) + "; x", end + 1);
+            if (least[i] > 0) {
+                fault(asks[i] + " " + (least[i] - 1), end + 1);
+            }
+            Checks.due("34: " + asks[i] + " the least", Checks.read(new BreadGames(), asks[i] + least[i]), 1);
+            Checks.due("34: " + asks[i] + " the most", Checks.read(new BreadGames(), asks[i] + most[i]), 1);
+            fault(asks[i] + " " + most[i] + ";", (asks[i] + " " + most[i] + ";").length());
+            fault(asks[i] + " " + most[i] + " stale", (asks[i] + " " + most[i] + " ").length());
+        }
+        fault("stale;", 6);
+        fault("fresh  ;  ", 10);
+        fault("stale loaf", 6);
+        fault("fan loaf;", 9);
+        fault("fan seat 1", 9);
+    }
+
     private static void fault(String text, int at) {
         BreadGames x = new BreadGames();
         Checks.due("34: '" + text + "'", Checks.read(x, text), -1 - at);
@@ -196,6 +309,12 @@ public final class TextsTest {
         Checks.due("34: none came", y.count(1), 9);
         Checks.due("34: one more", Checks.read(y, "hungry"), 1);
         Checks.due("34: the tenth", y.of(9, 0), 4);
+        BreadGames z = Checks.city("fan; fan; fan; fan; fan; fan; fan; fan; fan");
+        Checks.due("34: the 11th's own word", Checks.read(z, "boy seat ; boy hunger ; boy"), -1 - 11);
+        Checks.due("34: a fault before the 11th", Checks.read(z, "boy seat seat; boy"), -1 - 9);
+        Checks.due("34: behind ten a word that is none", Checks.read(z, "boy; boys"), -1 - 5);
+        Checks.due("34: ten and a rule", Checks.read(z, "boy; leads 2"), 2);
+        Checks.due("34: full", z.citizen(0), Checks.FULL);
     }
 
     private static void faultChangesNothing() {
